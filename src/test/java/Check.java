@@ -6,6 +6,7 @@ final class Check {
 
     private static int wrong = 0;
     private static int asked = 0;
+    private static String sentence = "";
 
     private Check() {
     }
@@ -24,7 +25,8 @@ final class Check {
         String got = outcome(call);
         if (!got.equals(String.valueOf(want))) {
             wrong++;
-            System.out.println(told + " answered " + got + ", due is " + want);
+            System.out.println(told + " answered " + got + ", due is " + want
+                + (sentence.isEmpty() ? "" : " [" + sentence + "]"));
         }
     }
 
@@ -38,6 +40,15 @@ final class Check {
 
     static void badState(String told, Call call) {
         due(told, "throws.IllegalStateException", call);
+    }
+
+    static int asked() {
+        return asked;
+    }
+
+    /** The sentence of the document that the answers from here on are of; none, if it is empty. */
+    static void under(String told) {
+        sentence = told;
     }
 
     static void end() {

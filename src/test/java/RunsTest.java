@@ -1,13 +1,17 @@
-/** Long runs of calls on the class and on the model, answer by answer; the runs are the same ones each time. */
+/**
+ * Long runs of calls on the class and on the model, answer by answer; the runs are the same ones each time. Each is as
+ * long as the document promises, digest() being its last call.
+ */
 public final class RunsTest {
-    private static final int RUNS = 120;
-    private static final int CALLS = 512;
+    private static final int RUNS = 480;
+    private static final int MOST_CALLS = 512;
     private static final int[][] STEPS_FROM = {{0, 1, 4, 5}, {2, 3, 6}, {7, 8, 9, 10}};
 
     private long seed;
     private Bijectory house;
     private Model model;
     private int run;
+    private int calls;
 
     public static void main(String[] args) {
         RunsTest test = new RunsTest();
@@ -42,13 +46,22 @@ public final class RunsTest {
         house = new Bijectory();
         model = new Model();
         int greatest = number % 6 + 1;
-        for (int call = 0; call < CALLS; call++) {
+        calls = 0;
+        while (calls < MOST_CALLS - 1) {
             next(greatest);
         }
-        due("digest()", () -> model.digest(), () -> house.digest());
+        compare("digest()", () -> model.digest(), () -> house.digest());
     }
 
+    /** Leaves the last call of the house to digest(). */
     private void due(String call, Check.Call want, Check.Call got) {
+        if (calls < MOST_CALLS - 1) {
+            compare(call, want, got);
+        }
+    }
+
+    private void compare(String call, Check.Call want, Check.Call got) {
+        calls++;
         Check.due("run " + run + ": " + call, Check.outcome(want), got);
     }
 

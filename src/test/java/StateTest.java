@@ -142,23 +142,27 @@ public final class StateTest {
     }
 
     private static void digestAsAsked() {
-        Bijectory house = new Bijectory();
         for (int size = 1; size <= 6; size++) {
+            Bijectory house = Refused.of(StateTest::told);
+            // what was found of the maps for another size is of no use for this one
+            house.size(7 - size);
+            house.digest();
             house.size(size);
-            if (size == 2) {
-                house.map(7);
-                house.map(5);
-                house.then(1, 4);
-            }
             if (size > 2) {
                 house.map(size + 2);
-                house.claim(size - 1, 0, size % 4);
+                house.claim(2, 0, size % 4);
                 house.walker(2, house.unrank(2, 1));
                 house.walker(0, house.unrank(0, size - 1));
                 house.send(1, 1, size);
             }
             Check.due("29: size " + size, asked(house), house::digest);
         }
+    }
+
+    private static void told(Bijectory house) {
+        house.map(7);
+        house.map(5);
+        house.then(1, 4);
     }
 
     private static long asked(Bijectory house) {

@@ -26,8 +26,7 @@ public final class StepsTest {
 
     private static void byHand() {
         for (int step = 0; step <= 10; step++) {
-            Bijectory house = new Bijectory();
-            house.map(step);
+            Bijectory house = Houses.with(3, step);
             for (int rank = 0; rank < IMAGES_OF_3[step].length; rank++) {
                 int at = rank;
                 Check.due("step " + step + ", image of " + rank, IMAGES_OF_3[step][rank], () -> house.image(0, at));
@@ -50,22 +49,21 @@ public final class StepsTest {
     }
 
     private static void objectsAsInModel(int size) {
-        Bijectory house = new Bijectory();
+        Houses houses = Houses.many(size);
         Model model = new Model();
-        house.size(size);
         model.size(size);
         for (int family = 0; family <= 2; family++) {
             int of = family;
-            Check.due(size + ": objects(" + of + ")", model.objects(of), () -> house.objects(of));
+            Check.due(size + ": objects(" + of + ")", model.objects(of), () -> houses.next().objects(of));
             for (int rank = 0; rank < model.objects(of); rank++) {
                 int at = rank;
                 int code = model.unrank(of, at);
-                Check.due(size + ": unrank(" + of + ", " + at + ")", code, () -> house.unrank(of, at));
-                Check.due(size + ": rank(" + of + ", " + code + ")", at, () -> house.rank(of, code));
+                Check.due(size + ": unrank(" + of + ", " + at + ")", code, () -> houses.next().unrank(of, at));
+                Check.due(size + ": rank(" + of + ", " + code + ")", at, () -> houses.next().rank(of, code));
                 for (int which = 0; which <= 3; which++) {
                     int by = which;
                     Check.due(size + ": statistic(" + of + ", " + by + ", " + at + ")",
-                        model.statistic(of, by, at), () -> house.statistic(of, by, at));
+                        model.statistic(of, by, at), () -> houses.next().statistic(of, by, at));
                 }
             }
             for (int which = 0; which <= 3; which++) {
@@ -73,46 +71,44 @@ public final class StepsTest {
                 for (int value = -1; value <= 37; value++) {
                     int is = value;
                     Check.due(size + ": spread(" + of + ", " + by + ", " + is + ")", model.spread(of, by, is),
-                        () -> house.spread(of, by, is));
+                        () -> houses.next().spread(of, by, is));
                 }
             }
         }
         for (int code = -2; code <= 4100; code++) {
             int is = code;
-            Check.due(size + ": rank(0, " + is + ")", model.rank(0, is), () -> house.rank(0, is));
+            Check.due(size + ": rank(0, " + is + ")", model.rank(0, is), () -> houses.next().rank(0, is));
         }
     }
 
     private static void imagesAsInModel(int size) {
         for (int step = 0; step <= 10; step++) {
-            Bijectory house = new Bijectory();
+            Houses houses = Houses.many(size, step);
             Model model = new Model();
-            house.size(size);
             model.size(size);
-            house.map(step);
             model.map(step);
             String told = size + ", step " + step + ": ";
             for (int rank = 0; rank < model.objects(FROM[step]); rank++) {
                 int at = rank;
-                Check.due(told + "image(0, " + at + ")", model.image(0, at), () -> house.image(0, at));
+                Check.due(told + "image(0, " + at + ")", model.image(0, at), () -> houses.next().image(0, at));
             }
             for (int rank = 0; rank < model.objects(TO[step]); rank++) {
                 int at = rank;
-                Check.due(told + "source(0, " + at + ")", model.source(0, at), () -> house.source(0, at));
+                Check.due(told + "source(0, " + at + ")", model.source(0, at), () -> houses.next().source(0, at));
             }
             for (int what = 0; what <= 7; what++) {
                 int is = what;
-                Check.due(told + "ofMap(0, " + is + ")", model.ofMap(0, is), () -> house.ofMap(0, is));
+                Check.due(told + "ofMap(0, " + is + ")", model.ofMap(0, is), () -> houses.next().ofMap(0, is));
             }
-            Check.due(told + "rounds(0)", model.rounds(0), () -> house.rounds(0));
-            Check.due(told + "period(0)", model.period(0), () -> house.period(0));
+            Check.due(told + "rounds(0)", model.rounds(0), () -> houses.next().rounds(0));
+            Check.due(told + "period(0)", model.period(0), () -> houses.next().period(0));
             for (int which = 0; which <= 3; which++) {
                 int by = which;
-                Check.due(told + "cancels(0, " + by + ")", model.cancels(0, by), () -> house.cancels(0, by));
+                Check.due(told + "cancels(0, " + by + ")", model.cancels(0, by), () -> houses.next().cancels(0, by));
                 for (int other = 0; other <= 3; other++) {
                     int and = other;
                     Check.due(told + "against(0, " + by + ", " + and + ")", model.against(0, by, and),
-                        () -> house.against(0, by, and));
+                        () -> houses.next().against(0, by, and));
                 }
             }
         }
