@@ -184,6 +184,7 @@ public final class MapsEdgesTest {
         ask("source(0, 1)", -1, house -> house.source(0, 1), 2, 10);
         ask("source(0, 5)", -1, house -> house.source(0, 5), 3, 10);
         ask("source(0, 719)", -1, house -> house.source(0, 719), 6, 10);
+        ask("source(0, 0), the first one", -1, house -> house.source(0, 0), 3, 10, 9);
     }
 
     private static void sourceOfNoRank() {
@@ -336,6 +337,8 @@ public final class MapsEdgesTest {
             ask("cancels(0, " + by + "), nothing moves", true, house -> house.cancels(0, by), 6, 0, 2);
             ask("cancels(0, " + by + "), not back at once", false, house -> house.cancels(0, by), 3, 5);
             ask("cancels(0, " + by + "), not PERFECT", false, house -> house.cancels(0, by), 6, 10);
+            ask("cancels(0, " + by + "), the first one alone is not", false, house -> house.cancels(0, by), 2, 10, 9);
+            ask("cancels(0, " + by + "), the last one alone is not", false, house -> house.cancels(0, by), 2, 10);
         }
         ask("cancels(0, 2), two that move", true, house -> house.cancels(0, 2), 3, 8);
         ask("cancels(0, 0), all move", true, house -> house.cancels(0, 0), 6, 9);

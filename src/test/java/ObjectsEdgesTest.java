@@ -271,6 +271,9 @@ public final class ObjectsEdgesTest {
         ask("alike(0, 0, 0, 3)", 2, false, house -> house.alike(0, 0, 0, 3));
         ask("alike(0, 3, 0, 0)", 2, false, house -> house.alike(0, 3, 0, 0));
         ask("alike(0, 0, 1, 2)", 2, false, house -> house.alike(0, 0, 1, 2));
+        // RETURNS 1, 2, 3 of 2, 2, 1 PATHS; INVERSIONS 0 of one ORDER, and 1, 2, 3 of 2, 2, 1: 0 alone is not alike
+        ask("alike(0, 1, 2, 1)", 3, false, house -> house.alike(0, 1, 2, 1));
+        ask("alike(2, 1, 0, 1)", 3, false, house -> house.alike(2, 1, 0, 1));
         // DROPS 0 and 1 at one OBJECT each, PEAKS 1 and 2
         ask("alike(2, 0, 0, 0)", 2, false, house -> house.alike(2, 0, 0, 0));
         ask("alike(2, 0, 1, 3)", 2, true, house -> house.alike(2, 0, 1, 3));

@@ -214,6 +214,9 @@ public final class StatisticsEdgesTest {
         // SORT leaves 12 where it is and sends 21, which has another SIGN by DROPS, there too
         cancels("SORT of 2", false, Houses.with(2, 10), 0);
         cancels("SORT of 2", false, Houses.with(2, 10), 1);
+        // the other way round, 21 stays and 12 goes there; so the first OBJECT alone is against it
+        cancels("SORT and TURN of 2", false, Houses.with(2, 10, 9), 0);
+        cancels("SORT and TURN of 2", false, Houses.with(2, 10, 9), 1);
         cancels("SORT of 1", true, Houses.with(1, 10), 0);
         cancels("SHAPE and LABEL of 3, 231 alone moves", false, Houses.with(3, 7, 6), 1);
         cancels("SHAPE and LABEL of 2", true, Houses.with(2, 7, 6), 1);

@@ -129,6 +129,7 @@ public final class ToldEdgesTest {
 
     private static void then() {
         Sentences.holds(4, "Returns how many STEPS it has then.", ToldEdgesTest::thenCounts);
+        Sentences.holds(4, "Puts a STEP behind those of a MAP.", ToldEdgesTest::thenChangesTheMap);
         Sentences.holds(4, "Throws `IndexOutOfBoundsException` if there is no such MAP", ToldEdgesTest::thenOfNoMap);
         Sentences.holds(4, "Throws `IllegalArgumentException` if step is not 0 to 10", ToldEdgesTest::thenOfNoStep);
         String state = "Throws `IllegalStateException` if it has 6, is in a CLAIM, or the STEP does not go from the "
@@ -143,6 +144,22 @@ public final class ToldEdgesTest {
         for (int length = 2; length <= 6; length++) {
             int due = length;
             Check.due("then(0, 9)", due, () -> house.then(0, 9));
+        }
+    }
+
+    private static void thenChangesTheMap() {
+        // ROLL of 3 has rounds of two and of three; what was asked of a shorter MAP does not stay
+        long[] periods = {6, 3, 2, 3, 6, 1};
+        int[] rounds = {2, 3, 4, 3, 2, 5};
+        int[] unmoved = {0, 2, 3, 2, 0, 5};
+        Bijectory house = Houses.with(3, 5);
+        for (int length = 1; length <= 6; length++) {
+            Check.due("period(0) of " + length, periods[length - 1], () -> house.period(0));
+            Check.due("rounds(0) of " + length, rounds[length - 1], () -> house.rounds(0));
+            Check.due("ofMap(0, 6) of " + length, unmoved[length - 1], () -> house.ofMap(0, 6));
+            if (length < 6) {
+                house.then(0, 5);
+            }
         }
     }
 
