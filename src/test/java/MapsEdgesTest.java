@@ -55,9 +55,10 @@ public final class MapsEdgesTest {
 
     private static void ofMap() {
         Sentences.holds(18, "Returns that.", MapsEdgesTest::factsOfAFullMap);
-        Sentences.holds(18, "3 1 if it is ONE-TO-ONE, otherwise 0, 4 1 if it is ONTO, otherwise 0, 5 how many IMAGES there "
-            + "are that are unlike each other", MapsEdgesTest::oneToOneAndOnto);
-        Sentences.holds(18, "6 how many OBJECTS are their own IMAGE (NONE, if it is no MOVE)", MapsEdgesTest::ownImages);
+        Sentences.holds(18, "3 1 if it is ONE-TO-ONE, otherwise 0, 4 1 if it is ONTO, otherwise 0, 5 how many IMAGES "
+            + "there are that are unlike each other", MapsEdgesTest::oneToOneAndOnto);
+        Sentences.holds(18, "6 how many OBJECTS are their own IMAGE (NONE, if it is no MOVE)",
+            MapsEdgesTest::ownImages);
         Sentences.holds(18, "7 1 if it is in a CLAIM, otherwise 0", MapsEdgesTest::inAClaim);
         Sentences.holds(18, NO_MAP, () -> needsMap("ofMap(.., 0)", (house, map) -> house.ofMap(map, 0)));
         Sentences.holds(18, "Throws `IllegalArgumentException` if what is not 0 to 7", MapsEdgesTest::ofMapOfNoWhat);
@@ -146,8 +147,8 @@ public final class MapsEdgesTest {
                 int is = step;
                 int last = count(FROM[step], size) - 1;
                 for (int rank : new int[] {-1, last + 1, Integer.MIN_VALUE, Integer.MAX_VALUE}) {
-                    ask("image(0, " + rank + ")", "throws.IndexOutOfBoundsException", house -> house.image(0, rank), size,
-                        is);
+                    ask("image(0, " + rank + ")", "throws.IndexOutOfBoundsException", house -> house.image(0, rank),
+                        size, is);
                 }
                 ask("image(0, " + last + ") is one of TO", true, house -> house.image(0, last) >= 0, size, is);
             }
@@ -246,8 +247,8 @@ public final class MapsEdgesTest {
     // ---- 22
 
     private static void period() {
-        Sentences.holds(22, "Returns behind how many times a PERFECT MOVE has each OBJECT where it was, for the first time",
-            MapsEdgesTest::periods);
+        Sentences.holds(22, "Returns behind how many times a PERFECT MOVE has each OBJECT where it was, for the first "
+            + "time", MapsEdgesTest::periods);
         Sentences.holds(22, "(1 at least)", MapsEdgesTest::periodsOfOne);
         Sentences.holds(22, "NONE of another one", MapsEdgesTest::noPeriod);
         Sentences.holds(22, NO_MAP, () -> needsMap("period(..)", (house, map) -> house.period(map)));

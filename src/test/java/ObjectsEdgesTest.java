@@ -384,8 +384,8 @@ public final class ObjectsEdgesTest {
     // ---- 17
 
     private static void sorted() {
-        Sentences.holds(17, "Returns how many ORDERS of the SIZE are in order (1, 2 and so on) behind so many times SORT "
-            + "at most.", ObjectsEdgesTest::sortedAtMost);
+        Sentences.holds(17, "Returns how many ORDERS of the SIZE are in order (1, 2 and so on) behind so many times "
+            + "SORT at most.", ObjectsEdgesTest::sortedAtMost);
         Sentences.holds(17, "Throws `IllegalArgumentException` if times is not 0 to 6", ObjectsEdgesTest::notSoOften);
     }
 

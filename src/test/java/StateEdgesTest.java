@@ -75,8 +75,8 @@ public final class StateEdgesTest {
 
     private static void ofClaim() {
         Sentences.holds(26, "Returns that.", StateEdgesTest::factsOfClaims);
-        Sentences.holds(26, "the set of SIZES for which it was TRIED (the sum of 2^n), 4 that of those for which it was "
-            + "REFUTED", StateEdgesTest::sumsOfSizes);
+        Sentences.holds(26, "the set of SIZES for which it was TRIED (the sum of 2^n), 4 that of those for which it "
+            + "was REFUTED", StateEdgesTest::sumsOfSizes);
         Sentences.holds(26, "Throws `IndexOutOfBoundsException` if there is no such CLAIM", StateEdgesTest::noClaim);
         Sentences.holds(26, "Throws `IllegalArgumentException` if what is not 0 to 4", StateEdgesTest::ofClaimNoWhat);
     }
@@ -291,8 +291,9 @@ public final class StateEdgesTest {
     private static void digest() {
         Sentences.holds(29, "A number d starts with 9503", StateEdgesTest::digestOfNew);
         Sentences.holds(29, "which wraps around as a 64-bit integer", StateEdgesTest::digestWrapsAround);
-        Sentences.holds(29, "MAP by MAP ofMap() of 0 to 7, image() of 0, rounds(), period(), against() of 0 and 0; WALKER "
-            + "by WALKER ofWalker() of 0 to 4; CLAIM by CLAIM ofClaim() of 0 to 4", StateEdgesTest::digestOfFull);
+        Sentences.holds(29, "MAP by MAP ofMap() of 0 to 7, image() of 0, rounds(), period(), against() of 0 and 0; "
+            + "WALKER by WALKER ofWalker() of 0 to 4; CLAIM by CLAIM ofClaim() of 0 to 4",
+            StateEdgesTest::digestOfFull);
         Sentences.holds(29, "Returns d.", StateEdgesTest::digestAsksAlone);
     }
 

@@ -310,7 +310,8 @@ public final class StepsEdgesTest {
                 int is = step;
                 int of = size;
                 boolean moves = FROM[step] == TO[step];
-                Check.due("step " + is + " of " + of + " is a MOVE", moves, () -> Houses.with(of, is).ofMap(0, 6) != -1);
+                Check.due("step " + is + " of " + of + " is a MOVE", moves,
+                    () -> Houses.with(of, is).ofMap(0, 6) != -1);
             }
         }
         Check.due("GROW and READ", 5, () -> Houses.with(3, 0, 2).ofMap(0, 6));

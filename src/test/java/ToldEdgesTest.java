@@ -375,8 +375,8 @@ public final class ToldEdgesTest {
         Sentences.holds(7, "Throws `IndexOutOfBoundsException` if there is no such WALKER, or MAP",
             ToldEdgesTest::sendByNoMap);
         Sentences.holds(7, "Throws `IllegalArgumentException` if often is not 1 to 60", ToldEdgesTest::sendNotSoOften);
-        String state = "Throws `IllegalStateException` if the MAP is not FROM its FAMILY, or if it is no MOVE and often "
-            + "is above 1";
+        String state = "Throws `IllegalStateException` if the MAP is not FROM its FAMILY, or if it is no MOVE and "
+            + "often is above 1";
         Sentences.holds(7, state, ToldEdgesTest::sendFromElsewhere);
         Sentences.holds(7, state, ToldEdgesTest::sendByNoMove);
     }
