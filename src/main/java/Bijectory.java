@@ -70,7 +70,9 @@ public final class Bijectory {
         walkers = new Walker[MOST_WALKERS];
         claims = new Claim[MOST_CLAIMS];
         realm = Realm.of(FIRST_SIZE);
-        realms[FIRST_SIZE] = realm;
+        if (FIRST_SIZE < realms.length) {
+            realms[FIRST_SIZE] = realm;
+        }
     }
 
     // ---- what is told
@@ -1170,7 +1172,9 @@ public final class Bijectory {
 
         Chart(int step) {
             steps = new int[MOST_STEPS];
-            Rows.put(steps, 0, step);
+            if (steps.length > 0) {
+                steps[0] = step;
+            }
             length = 1;
             from = Rows.at(STEP_FROM, step);
             to = Rows.at(STEP_TO, step);

@@ -10,6 +10,8 @@ import java.util.HashSet;
 import java.util.List;
 import java.util.Set;
 import java.util.TreeSet;
+import java.util.regex.Matcher;
+import java.util.regex.Pattern;
 
 /** The face is the document's, and the source keeps to what LANGUAGE.md says of words. */
 public final class FaceTest {
@@ -36,7 +38,10 @@ public final class FaceTest {
 
     public static void main(String[] args) throws IOException {
         face();
+        faceOfTheDocument();
         members();
+        order(Files.readString(Path.of("src/main/java/Bijectory.java")));
+        constructors(Files.readString(Path.of("src/main/java/Bijectory.java")));
         source(Files.readString(Path.of("src/main/java/Bijectory.java")));
         Check.end();
     }
@@ -68,6 +73,46 @@ public final class FaceTest {
         Check.due("its parameters", 0, () -> made[0].getParameterCount());
     }
 
+    private static void faceOfTheDocument() throws IOException {
+        List<Face.Call> calls = Face.calls();
+        Check.due("calls of the document", FACE.length, calls::size);
+        for (int number = 0; number < Math.min(FACE.length, calls.size()); number++) {
+            Face.Call call = calls.get(number);
+            String thrown = String.join(" ", call.exceptions());
+            String due = FACE[number];
+            Check.due("name of call " + number, due.substring(due.indexOf(' ') + 1, due.indexOf('(')), call::name);
+            Check.due("what " + call.name() + " throws", due.substring(due.indexOf(')') + 1).trim(), () -> thrown);
+        }
+    }
+
+    /** The calls stand in the source as in the document, with its parameters and behind its headlines. */
+    private static void order(String text) throws IOException {
+        String source = text.replaceAll("\\s+", " ");
+        int[] at = {0};
+        for (Face.Call call : Face.calls()) {
+            String line = call.line().replace(";", " {");
+            int found = source.indexOf(line);
+            int ahead = at[0];
+            Check.due("the source holds, behind those ahead of it: " + line, true, () -> found > ahead);
+            at[0] = Math.max(ahead, found);
+        }
+        List<List<String>> headlines = Face.headlines();
+        Check.due("headlines of the document", 4, headlines::size);
+        for (List<String> headline : headlines) {
+            int title = source.indexOf("// ---- " + headline.get(0) + " ");
+            Check.due("the headline: " + headline.get(0), true, () -> title > 0);
+            for (String name : headline.subList(1, headline.size())) {
+                Check.due(name + " stands behind " + headline.get(0), headline.get(0), () -> headlineOf(source, name));
+            }
+        }
+    }
+
+    private static String headlineOf(String source, String name) {
+        String ahead = source.split("public [a-z]+ " + name + "\\(")[0];
+        String behind = ahead.substring(ahead.lastIndexOf("// ---- ") + "// ---- ".length());
+        return behind.split(" /\\*\\*")[0];
+    }
+
     private static void members() {
         Set<String> open = new HashSet<>();
         for (Method method : Bijectory.class.getDeclaredMethods()) {
@@ -97,6 +142,27 @@ public final class FaceTest {
     private static void staticIsFinal(Field field) {
         int is = field.getModifiers();
         Check.due(field + " is final, if static", true, () -> !Modifier.isStatic(is) || Modifier.isFinal(is));
+    }
+
+    /** LANGUAGE.md, rule 12: a constructor hands out nothing of the object that it makes, its rows too. */
+    private static void constructors(String text) {
+        Matcher made = Pattern.compile("(?ms)^( *)(?:public |private )?[A-Z]\\w*\\([^)]*\\) \\{$(.*?)^\\1\\}$")
+            .matcher(text);
+        int found = 0;
+        while (made.find()) {
+            String body = made.group(2);
+            found++;
+            Check.due("a constructor hands out its object: " + body, false,
+                () -> Pattern.compile("[(,] ?this[),]").matcher(body).find());
+            Matcher row = Pattern.compile("(\\w+) = new ").matcher(body);
+            while (row.find()) {
+                String name = row.group(1);
+                Check.due("a constructor hands out " + name, false,
+                    () -> Pattern.compile("[(,] ?" + name + "[),]").matcher(body).find());
+            }
+        }
+        int all = found;
+        Check.due("constructors that are written out", 6, () -> all);
     }
 
     private static void source(String text) {
